@@ -1625,12 +1625,13 @@ public final class ThirdWitness {
             int two = scene.town.twoOf(q);
             int gain = gainOf(q);
             int needs = scene.town.fact(q, ITS_NEED);
-            int boys = 0;
+            int eyes = 0;
             for (int m = from; m < MINUTES && how == NOT; m++) {
                 int before = saw;
                 saw |= Rows.get(seeing, m) & ~two;
-                boys += drawsBelow(boysInHundred) ? 1 : 0;
-                if (scene.eyesOf(saw) + boys * PLAIN_EYES >= ENOUGH_EYES) {
+                eyes += saw != before ? scene.eyesOf(saw & ~before) : 0;
+                eyes += drawsBelow(boysInHundred) ? PLAIN_EYES : 0;
+                if (eyes >= ENOUGH_EYES) {
                     how = STOPPED;
                     minute = m;
                     newcomers = saw & ~before;
@@ -1780,17 +1781,27 @@ public final class ThirdWitness {
 
         int fewestBricks(int q) {
             int before = scene.bricked;
+            int useful = openInto(scene.town.fact(q, ITS_PLACE));
             int best = NOT;
-            for (int set = 0; set < 1 << scene.town.count(SIGHTS); set++) {
+            for (int set = 0; set <= useful; set++) {
                 boolean fewer = best == NOT || Integer.bitCount(set) < Integer.bitCount(best);
-                if ((set & before) == 0 && fewer) {
+                if ((set & ~useful) == 0 && fewer) {
                     scene.bricked = before | set;
                     course.runAsTold(q);
+                    scene.bricked = before;
                     best = course.isWon() ? set : best;
                 }
             }
-            scene.bricked = before;
             return best;
+        }
+
+        /** Open sights into a place: others make no quarrel there any other, so the fewest have none of them. */
+        private int openInto(int place) {
+            int bits = 0;
+            for (int k = 0; k < scene.town.count(SIGHTS); k++) {
+                bits |= Rows.get(scene.town.sightsInto, k) == place ? 1 << k : 0;
+            }
+            return bits & ~scene.bricked;
         }
 
         int cheapestStoppers(int q) {

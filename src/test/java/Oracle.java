@@ -456,11 +456,11 @@ final class Oracle {
         return m >= 0 && m <= 59;
     }
 
-    int feed(int... numbers) {
+    int feed(int a, int b, int c, int d, int e) {
         if (tape.length() > 880) {
             return -1;
         }
-        for (int n : numbers) {
+        for (int n : new int[] {a, b, c, d, e}) {
             byte[] four = {(byte) (n >>> 24), (byte) (n >>> 16), (byte) (n >>> 8), (byte) n};
             tape.append(new String(four, StandardCharsets.ISO_8859_1));
         }

@@ -139,7 +139,7 @@ final class Texts {
                 int sign = from + i < text.length() ? text.charAt(from + i) : ' ';
                 five[i / 4] = five[i / 4] << 8 | sign & 255;
             }
-            o.feed(five);
+            o.feed(five[0], five[1], five[2], five[3], five[4]);
         }
     }
 

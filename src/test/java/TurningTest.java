@@ -128,9 +128,12 @@ public final class TurningTest {
         ThirdWitness x = new ThirdWitness();
         Check.refused(x, "swings", x.swings(0, 0, 60, true), 1);
         Check.refused(x, "three", x.three(0, 60), 1);
+        Check.denied(x, "undo", x.undo(), 6);
         Check.due("says", x.says(10, true, true, true), -100);
         Check.due("trouble()", x.trouble(), 1);
+        Check.denied(x, "undo", x.undo(), 6);
         Check.refused(x, "rests", x.rests(10), 1);
+        Check.denied(x, "undo", x.undo(), 6);
         Check.refused(x, "rest", x.rest(10), 1);
     }
 }
