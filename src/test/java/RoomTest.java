@@ -18,14 +18,6 @@ public final class RoomTest {
         + "endsByAt(2) wins(3) brick(1) open(1) hire(2) dismiss(1) spent(0) undo(0) image(0) back(1) led(1) size(1) trouble(0)";
     private static final int[] NUMBERS = {Integer.MIN_VALUE, -65537, -2, -1, 0, 1, 2, 3, 4, 5, 6, 7, 8, 9, 10, 16, 30, 31,
         32, 33, 59, 60, 64, 900, 901, 65536, 65537, 0x20202020, Integer.MAX_VALUE};
-    private static final String FULL = "town boys 50;place a;place b;place c;place d;place e;place f;"
-        + "sees a b;sees b c;sees c d;sees d e;sees e f;sees f a;sees a c;sees c a;"
-        + "person p plain at a wit 9;person q plain at b wit 0;person r deaf at c wit 1;person s blind at d wit 2;"
-        + "person t babe at e wit 3;person u plain at f wit 4;"
-        + "quarrel x p q at a from 0 needs 99;quarrel y q r at b from 9 needs 9;quarrel z r s at c from 59 needs 1;"
-        + "hire p for 1;hire q for 2;hire r for 3;hire s for 4;hire t for 5;hire u for 6;"
-        + "unsure p 1;unsure q 2;unsure r 3;unsure s 4;ended x at 9;ended y at 9;"
-        + "goes p b at 1;goes p c at 9;goes q a at 9;goes r a at 59";
 
     private RoomTest() {
     }
@@ -34,7 +26,7 @@ public final class RoomTest {
         face();
         anyArguments(new ThirdWitness(), "no town");
         anyArguments(Check.town("town boys 0;place a"), "a place alone");
-        anyArguments(Check.town(FULL), "a full town");
+        anyArguments(Check.town(Calls.FULL), "a full town");
         anyBytes();
         callsMakeNothing();
         Check.close();
@@ -138,7 +130,7 @@ public final class RoomTest {
     private static final int[] FULL_NUMBERS = numbers();
 
     private static int[] numbers() {
-        StringBuilder padded = new StringBuilder(FULL);
+        StringBuilder padded = new StringBuilder(Calls.FULL);
         while (padded.length() % 20 != 0) {
             padded.append(' ');
         }
@@ -153,7 +145,7 @@ public final class RoomTest {
         for (int i = 0; i < FULL_NUMBERS.length; i += 5) {
             x.feed(FULL_NUMBERS[i], FULL_NUMBERS[i + 1], FULL_NUMBERS[i + 2], FULL_NUMBERS[i + 3], FULL_NUMBERS[i + 4]);
         }
-        long sum = x.town(FULL.length()) + x.fault() + x.where() + x.image();
+        long sum = x.town(Calls.FULL.length()) + x.fault() + x.where() + x.image();
         sum += x.brick(0) && x.open(0) && x.back(0) && x.brick(1) && x.undo() ? 1 : 0;
         sum += x.hire(1, 1) + (x.dismiss(1) ? 1 : 0) + x.spent() + x.square() + x.hidden(3) + x.won() + x.nurse();
         for (int i = 0; i < 3; i++) {
