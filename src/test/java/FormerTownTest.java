@@ -112,6 +112,16 @@ public final class FormerTownTest {
         Check.due("surely()", x.surely(), 0);
         Check.due("ask()", x.ask(), 0);
         Check.due("askLeaves()", x.askLeaves(), 1);
+        // two sets behind sets of which the third one has bits of both unsure ones
+        Check.due("town", Check.tell(x, people + ";unsure x 4;unsure y 1;quarrel q x y at a from 0 needs 6;ended q at 1"), 1);
+        int[] sets = {0, 1, 3};
+        for (int i = 0; i < 3; i++) {
+            Check.due("fitAt(" + i + ")", x.fitAt(i), sets[i]);
+        }
+        Check.due("town", Check.tell(x, people + ";unsure x 4"), 1);
+        Check.due("fits()", x.fits(), 2);
+        Check.due("ask()", x.ask(), 0);
+        Check.due("askLeaves()", x.askLeaves(), 1);
         Check.due("town", Check.tell(x, people), 1);
         Check.due("fits() of nobody unsure", x.fits(), 1);
         Check.due("could() of nobody unsure", x.could(), 0);
